@@ -159,6 +159,14 @@ public final class TimeTest {
             Check.due("frost after hour " + hour, store.room(0, 2), hour + 1);
             Check.due("energy after hour " + hour, store.room(0, 5), 100 * (hour + 1));
         }
+        ColdStore odd = new ColdStore();
+        odd.addRoom(1, 20, 111, -300);
+        // 111 * 100 / 1000 = 11 at first, then 10, and 111 * 90 / 1000 = 9 in the last of these hours
+        int[] oddDue = {139, 130, 122, 114, 107, 101, 95, 90, 86, 82, 79};
+        for (int hour = 0; hour < oddDue.length; hour++) {
+            odd.tick(1);
+            Check.due("temperature by power 111 after hour " + hour, odd.room(0, 0), oddDue[hour]);
+        }
         ColdStore weak = new ColdStore();
         weak.addRoom(1, 20, 100, -300);
         weak.tick(89);

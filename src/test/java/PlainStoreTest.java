@@ -3,8 +3,9 @@
  * The calls come from a sequence that is the same every time.
  */
 public final class PlainStoreTest {
-    private static final int RUNS = 1500;
-    private static final int CALLS = 512;
+    private static final int RUNS = 2000;
+    // with a digest() after every third of them, these are the 512 calls that an object is used for
+    private static final int CALLS = 384;
 
     private static long seed = 1;
 
@@ -71,7 +72,9 @@ public final class PlainStoreTest {
             } else {
                 asking(place, x, y, choice, kind);
             }
-            Check.due(place + "digest()", x.digest(), y.digest());
+            if (i % 3 == 2) {
+                Check.due(place + "digest()", x.digest(), y.digest());
+            }
         }
     }
 

@@ -45,8 +45,12 @@ public final class TimeTest {
 
     private static ColdStore at(int time) {
         ColdStore store = running();
-        while (store.now() < time) {
-            store.tick(Math.min(200, time - store.now()));
+        return later(store, time - store.now());
+    }
+
+    private static ColdStore later(ColdStore store, int hours) {
+        for (int gone = 0; gone < hours; gone += 200) {
+            store.tick(Math.min(200, hours - gone));
         }
         return store;
     }
@@ -377,18 +381,13 @@ public final class TimeTest {
         Check.due("lasts(0) of a spoiled one", store.lasts(0), 0);
         for (int pallet = 0; pallet < 3; pallet++) {
             ColdStore asked = running();
-            ColdStore twin = running();
-            int hours = 0;
-            while (twin.pallet(pallet, 4) >= 0) {
-                twin.tick(1);
-                hours++;
-            }
-            Check.due("lasts(" + pallet + ")", asked.lasts(pallet), hours);
+            int hours = asked.lasts(pallet);
             Check.dueText("the state after lasts", State.of(asked), State.of(running()));
-            for (int i = 0; i < hours; i++) {
-                asked.tick(1);
-            }
-            Check.dueText("the state later", State.of(asked), State.of(twin));
+            Check.due("left an hour before lasts(" + pallet + ") is < 0",
+                    later(running(), hours - 1).pallet(pallet, 4) < 0 ? 1 : 0, 0);
+            Check.due("left after lasts(" + pallet + ") is < 0",
+                    later(running(), hours).pallet(pallet, 4) < 0 ? 1 : 0, 1);
+            Check.dueText("the state later", State.of(later(asked, hours)), State.of(later(running(), hours)));
         }
         Check.due("lasts(2) at 2000", at(2000).lasts(2), 0);
     }

@@ -1,9 +1,17 @@
-/** All that can be seen of a store without changing it, as a text. */
+/**
+ * All that can be seen of a store without changing it, as texts. Each of the two halves takes at most
+ * some 360 calls, so that a store as full as can be stays under its 512.
+ */
 final class State {
     private State() {
     }
 
+    /** Both halves, of a store with few pallets. */
     static String of(ColdStore store) {
+        return ofStore(store) + ofPallets(store);
+    }
+
+    static String ofStore(ColdStore store) {
         StringBuilder text = new StringBuilder();
         text.append("now ").append(store.now()).append(" paid ").append(store.paid());
         text.append(" digest ").append(store.digest()).append(" counts");
@@ -14,14 +22,14 @@ final class State {
         for (int hour = 0; hour < 24; hour++) {
             text.append(' ').append(store.outside(hour));
         }
-        appendRooms(text, store);
-        appendProducts(text, store);
-        appendPallets(text, store);
+        int rooms = store.count(1);
+        appendRooms(text, store, rooms);
+        appendProducts(text, store, rooms);
         return text.toString();
     }
 
-    private static void appendRooms(StringBuilder text, ColdStore store) {
-        for (int room = 0; room < store.count(1); room++) {
+    private static void appendRooms(StringBuilder text, ColdStore store, int rooms) {
+        for (int room = 0; room < rooms; room++) {
             text.append("\nroom ").append(room).append(':');
             for (int what = 0; what < 7; what++) {
                 text.append(' ').append(store.room(room, what));
@@ -33,27 +41,34 @@ final class State {
         }
     }
 
-    private static void appendProducts(StringBuilder text, ColdStore store) {
-        for (int product = 0; product < store.count(0); product++) {
+    private static void appendProducts(StringBuilder text, ColdStore store, int rooms) {
+        int products = store.count(0);
+        for (int product = 0; product < products; product++) {
             text.append("\nproduct ").append(product).append(": best ").append(store.bestRoom(product));
             text.append(" stock ").append(store.stock(product, false));
             text.append(' ').append(store.stock(product, true));
             text.append(" fresh ").append(store.freshness(product)).append(" reasons");
-            for (int room = 0; room < store.count(1); room++) {
+            for (int room = 0; room < rooms; room++) {
                 text.append(' ').append(store.reason(product, room));
             }
         }
     }
 
-    private static void appendPallets(StringBuilder text, ColdStore store) {
-        for (int pallet = 0; pallet < store.count(2); pallet++) {
+    static String ofPallets(ColdStore store) {
+        StringBuilder text = new StringBuilder();
+        int pallets = store.count(2);
+        for (int pallet = 0; pallet < pallets; pallet++) {
             text.append("\npallet ").append(pallet).append(':');
+            int room = -1;
             for (int what = 0; what < 5; what++) {
-                text.append(' ').append(store.pallet(pallet, what));
+                int fact = store.pallet(pallet, what);
+                room = what == 3 ? fact : room;
+                text.append(' ').append(fact);
             }
-            if (store.pallet(pallet, 3) >= 0) {
+            if (room >= 0) {
                 text.append(" lasts ").append(store.lasts(pallet));
             }
         }
+        return text.toString();
     }
 }

@@ -160,7 +160,9 @@ public final class ColdStore {
             throws IndexOutOfBoundsException, IllegalArgumentException {
         Product ordered = existingProduct(product);
         requireWithin(many, 1, MOST_PALLETS);
-        requireWithin(least, 0, Integer.MAX_VALUE);
+        if (least < 0) {
+            throw new IllegalArgumentException("less than nothing");
+        }
         int shipped = 0;
         Pallet next = nextToShip(ordered, least);
         while (shipped < many && next != null) {
@@ -434,8 +436,10 @@ public final class ColdStore {
             }
         }
 
+        // An hour of the day always has a price; every index is looked at all the same.
         int priceAt(int time) {
-            return prices[Math.floorMod(time, HOURS_OF_DAY)];
+            int hour = Math.floorMod(time, HOURS_OF_DAY);
+            return hour >= 0 && hour < prices.length ? prices[hour] : lowest;
         }
 
         boolean isLowestAt(int time) {
